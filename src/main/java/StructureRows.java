@@ -228,12 +228,14 @@ public final class StructureRows {
         private static final int MOST_COLUMNS = 8;
 
         private final long[] cells;
+        private final int[] beginnings;
         private int height;
         private int width;
         private int imageHeight;
 
         Reduction() {
             cells = new long[MOST_ROWS * MOST_COLUMNS];
+            beginnings = new int[MOST_ROWS];
         }
 
         /** Takes at most 4 rows and at most 4 columns ahead of the unit columns, all 0 at first. */
@@ -269,40 +271,73 @@ public final class StructureRows {
             return cell(imageHeight + row, width + column);
         }
 
+        /**
+         * The rows are taken in one at a time, and all are kept small in between: a BASE of such rows has no
+         * number above some 50,000, but rows left as Euclid's steps make them would grow towards the end of long.
+         */
         void reduce() {
-            int done = 0;
+            for (int row = 0; row < height; row++) {
+                takeIn(row);
+            }
+            imageHeight = 0;
+            for (int row = 0; row < height; row++) {
+                if (beginnings[row] < width) {
+                    imageHeight++;
+                }
+            }
+        }
+
+        /** The rows ahead of the newest are a BASE; makes one of them and it. Its unit row keeps it from being 0. */
+        private void takeIn(int newest) {
+            int next = 0;
             for (int column = 0; column < width + height; column++) {
-                if (done < height && gather(done, column)) {
-                    makeBeginning(done, column);
-                    done++;
+                boolean begins = next < newest && beginnings[next] == column;
+                if (cell(newest, column) != 0 && begins) {
+                    clearNewest(next, newest, column);
+                    keepSmall(newest, newest);
+                } else if (cell(newest, column) != 0) {
+                    moveAhead(newest, next, column);
+                    keepSmall(newest + 1, newest);
+                    return;
                 }
-                if (column < width) {
-                    imageHeight = done;
+                if (begins) {
+                    next++;
                 }
             }
         }
 
-        /** Leaves at the column 0 in all rows behind the top one; says whether the top one isn't 0 there. */
-        private boolean gather(int top, int column) {
-            for (int row = top + 1; row < height; row++) {
-                for (int step = 0; step < MOST_STEPS && cell(row, column) != 0; step++) {
-                    takeAway(top, row, cell(top, column) / cell(row, column));
-                    swap(top, row);
-                }
+        /** Euclid's steps between the two rows: what is left at the column is in the first of them. */
+        private void clearNewest(int row, int newest, int column) {
+            for (int step = 0; step < MOST_STEPS && cell(newest, column) != 0; step++) {
+                takeAway(row, newest, cell(row, column) / cell(newest, column));
+                swap(row, newest);
             }
-            return cell(top, column) != 0;
+            if (cell(row, column) < 0) {
+                turnSigns(row);
+            }
         }
 
-        private void makeBeginning(int top, int column) {
-            if (cell(top, column) < 0) {
-                turnSigns(top);
+        private void moveAhead(int newest, int to, int column) {
+            for (int row = newest; row > to; row--) {
+                swap(row, row - 1);
+                beginnings[row] = beginnings[row - 1];
             }
-            long beginning = cell(top, column);
-            if (beginning <= 0) {
-                return;
+            beginnings[to] = column;
+            if (cell(to, column) < 0) {
+                turnSigns(to);
             }
-            for (int row = 0; row < top; row++) {
-                takeAway(row, top, Math.floorDiv(cell(row, column), beginning));
+        }
+
+        /** Brings all rows ahead of a base row, and the newest if it is none yet, below its beginning there. */
+        private void keepSmall(int baseRows, int newest) {
+            for (int base = 0; base < baseRows; base++) {
+                int column = beginnings[base];
+                long beginning = cell(base, column);
+                for (int row = 0; row <= newest; row++) {
+                    if (beginning > 0 && (row < base || row >= baseRows)) {
+                        takeAway(row, base, Math.floorDiv(cell(row, column), beginning));
+                    }
+                }
             }
         }
 
@@ -313,6 +348,9 @@ public final class StructureRows {
         }
 
         private void takeAway(int row, int other, long howOften) {
+            if (howOften == 0) {
+                return;
+            }
             for (int column = 0; column < width + height; column++) {
                 set(row, column, cell(row, column) - howOften * cell(other, column));
             }
