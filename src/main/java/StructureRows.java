@@ -242,7 +242,6 @@ public final class StructureRows {
         void open(int rows, int columns) {
             height = Math.max(0, Math.min(rows, MOST_ROWS));
             width = Math.max(0, Math.min(columns, MOST_COLUMNS - MOST_ROWS));
-            imageHeight = 0;
             for (int place = 0; place < MOST_ROWS * MOST_COLUMNS; place++) {
                 cells[place] = 0;
             }
@@ -449,7 +448,6 @@ public final class StructureRows {
         }
 
         void start(int a, int b, int c, int d) {
-            known = false;
             rest[0] = a;
             rest[1] = b;
             rest[2] = c;
